@@ -5,6 +5,8 @@ public final class HistoryTest {
     public static void main(String[] args) {
         fourStates();
         allOfTheState();
+        stepByStep();
+        droppedEventsComeBack();
         snapshots();
         snapshotsAndHistory();
         due.end();
@@ -54,6 +56,75 @@ public final class HistoryTest {
         due.is("the same state", Told.hash(x) == before ? 1 : 0, 1);
         due.is("the stamp comes again", x.delete(3, 1), 4);
         due.is("as the second one", x.known(2, 1, 2), 2);
+    }
+
+    /** Acts of every kind, each of which lets the object tell something else. */
+    private static void act(KeyGraves x, int number) {
+        switch (number) {
+            case 0 -> x.plan(3, 2, 1);
+            case 1 -> x.write(0, 0, 11);
+            case 2 -> x.pass(1);
+            case 3 -> x.repair(0, 3);
+            case 4 -> x.write(3, 0, 12);
+            case 5 -> x.set(2, 1);
+            case 6 -> x.delete(1, 0);
+            case 7 -> x.pass(1);
+            case 8 -> x.repair(0, 1);
+            case 9 -> x.read(2, 0);
+            case 10 -> x.setUp(0, false);
+            case 11 -> x.clear(1);
+            case 12 -> x.repair(1, 3);
+            case 13 -> x.setUp(0, true);
+            case 14 -> x.setUp(3, false);
+            case 15 -> x.readPlan();
+            case 16 -> x.pass(1);
+            case 17 -> x.write(2, 7, 13);
+            case 18 -> x.pass(3);
+            case 19 -> x.write(2, 7, 14);
+            case 20 -> x.read(1, 7);
+            default -> x.restore();
+        }
+    }
+
+    private static void stepByStep() {
+        for (int last = 0; last <= 21; last++) {
+            KeyGraves x = new KeyGraves();
+            x.keep();
+            Due.typeAll(x, "1-0@3,1-3@3,2-1@6");
+            int[] hashes = new int[last + 1];
+            for (int number = 0; number <= last; number++) {
+                hashes[number] = Told.hash(x);
+                act(x, number);
+                String of = " of act " + number;
+                due.is("a change" + of, Told.hash(x) == hashes[number] ? 1 : 0, 0);
+                due.is("states" + of, x.count(11), Math.min(number + 1, 4));
+            }
+            for (int number = last; number >= Math.max(0, last - 3); number--) {
+                x.undo();
+                String of = " of act " + number + " of " + last;
+                due.is("undo()" + of, Told.hash(x) == hashes[number] ? 1 : 0, 1);
+            }
+        }
+    }
+
+    private static void droppedEventsComeBack() {
+        KeyGraves x = new KeyGraves();
+        x.plan(3, 2, 1);
+        x.setUp(2, false);
+        x.pass(1);
+        for (int i = 0; i < 9; i++) {
+            x.repair(0, 1);
+        }
+        int before = Told.hash(x);
+        due.is("the oldest that is known", x.event(9, 0) * 100 + x.event(9, 2) * 10
+            + x.event(9, 3), 123);
+        x.pass(1);
+        x.repair(0, 3);
+        due.is("it is dropped", x.event(9, 0) * 100 + x.event(9, 2) * 10 + x.event(9, 3), 1);
+        x.undo();
+        x.undo();
+        due.is("it is back", x.event(9, 0) * 100 + x.event(9, 2) * 10 + x.event(9, 3), 123);
+        due.is("as before", Told.hash(x) == before ? 1 : 0, 1);
     }
 
     private static void snapshots() {

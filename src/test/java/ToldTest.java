@@ -7,6 +7,7 @@ public final class ToldTest {
         knownFacts();
         truths();
         nodes();
+        onlyTheLastKeyOrTheFirst();
         pairs();
         slowestPairs();
         gracesNeeded();
@@ -146,6 +147,41 @@ public final class ToldTest {
         x.set(3, 1);
         node(x, 1, 0, 2, 2, 2, 0, 0);
         due.is("two graves of each of two nodes", x.count(6), 4);
+    }
+
+    private static void onlyTheLastKeyOrTheFirst() {
+        for (int key = 0; key <= 7; key += 7) {
+            KeyGraves x = new KeyGraves();
+            x.set(0, 2);
+            x.set(2, 1);
+            x.write(1, key, 5);
+            x.set(0, 1);
+            x.delete(1, key);
+            x.pass(1);
+            node(x, 0, 1, 0, 0, 0, 0, 0);
+            node(x, 1, 1, 0, 1, 1, 1, 0);
+            node(x, 2, 1, 1, 0, 0, 0, 1);
+            node(x, 3, 1, 0, 0, 0, 0, 0);
+            due.is("0 and 1", x.pair(0, 1, 1), 1);
+            due.is("0 and 3", x.pair(0, 3, 1), 0);
+            due.is("1 and 2", x.pair(1, 2, 1), 1);
+            due.is("clear(0)", x.clear(0), -5);
+            due.is("clear(2)", x.clear(2), -5);
+            due.is("haunting keys", x.count(7), 1);
+            due.is("graves", x.count(6), 1);
+            due.is("not settled", x.count(10), 1);
+            due.is("the grace", x.graceNeeded(), 2);
+            due.is("repair(3, 2)", x.repair(3, 2), 1);
+            due.is("it came back at 3", x.event(0, 2) * 10 + x.event(0, 3), 30 + key);
+            KeyGraves y = new KeyGraves();
+            y.set(0, 1);
+            y.set(2, 1);
+            y.delete(0, key);
+            y.pass(3);
+            due.is("only node 0 knows a grave", y.graceNeeded(), 4);
+            due.is("clear(3)", y.clear(3), -5);
+            due.is("clear(0)", y.clear(0), 1);
+        }
     }
 
     private static void pairs() {
