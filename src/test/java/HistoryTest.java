@@ -1,3 +1,6 @@
+import java.util.List;
+import java.util.function.UnaryOperator;
+
 /** Promises 14 (undo), 15 (keep) and 16 (restore), and which calls are acts. */
 public final class HistoryTest {
     private static final Due due = new Due();
@@ -35,119 +38,49 @@ public final class HistoryTest {
     }
 
     private static void allOfTheState() {
-        KeyGraves x = new KeyGraves();
-        x.set(0, 4);
-        x.write(0, 0, 5);
-        x.set(2, 1);
-        x.plan(0, 1, 1);
-        x.plan(2, 1, 1);
-        int before = Told.hash(x);
-        x.setUp(3, false);
-        due.is("another state", Told.hash(x) == before ? 1 : 0, 0);
-        x.delete(0, 0);
-        x.pass(1);
-        x.clear(1);
-        due.is("undo()", x.undo(), 3);
-        due.is("undo()", x.undo(), 2);
-        due.is("the stamp that was given", x.count(1), 2);
-        due.is("undo()", x.undo(), 1);
-        due.is("stamps are given again", x.count(1), 1);
-        due.is("undo()", x.undo(), 0);
-        due.is("the same state", Told.hash(x) == before ? 1 : 0, 1);
-        due.is("the stamp comes again", x.delete(3, 1), 4);
-        due.is("as the second one", x.known(2, 1, 2), 2);
+        Run before = new Run(due).set(0, 4).write(0, 0, 5).set(2, 1).plan(0, 1, 1).plan(2, 1, 1);
+        Run run = new Run(due).like(before).setUp(3, false).changes().delete(0, 0).pass(1).clear(1);
+        run.undo().due(3).undo().due(2).count(1).due(2).undo().due(1).count(1).due(1).undo().due(0);
+        run.stateAsBehind(before).delete(3, 1).due(4).known(2, 1, 2).due(2);
     }
 
     /** Acts of every kind, each of which lets the object tell something else. */
-    private static void act(KeyGraves x, int number) {
-        switch (number) {
-            case 0 -> x.plan(3, 2, 1);
-            case 1 -> x.write(0, 0, 11);
-            case 2 -> x.pass(1);
-            case 3 -> x.repair(0, 3);
-            case 4 -> x.write(3, 0, 12);
-            case 5 -> x.set(2, 1);
-            case 6 -> x.delete(1, 0);
-            case 7 -> x.pass(1);
-            case 8 -> x.repair(0, 1);
-            case 9 -> x.read(2, 0);
-            case 10 -> x.setUp(0, false);
-            case 11 -> x.clear(1);
-            case 12 -> x.repair(1, 3);
-            case 13 -> x.setUp(0, true);
-            case 14 -> x.setUp(3, false);
-            case 15 -> x.readPlan();
-            case 16 -> x.pass(1);
-            case 17 -> x.write(2, 7, 13);
-            case 18 -> x.pass(3);
-            case 19 -> x.write(2, 7, 14);
-            case 20 -> x.read(1, 7);
-            default -> x.restore();
-        }
+    private static List<UnaryOperator<Run>> acts() {
+        return List.of(
+            run -> run.plan(3, 2, 1), run -> run.write(0, 0, 11), run -> run.pass(1),
+            run -> run.repair(0, 3), run -> run.write(3, 0, 12), run -> run.set(2, 1),
+            run -> run.delete(1, 0), run -> run.pass(1), run -> run.repair(0, 1),
+            run -> run.read(2, 0), run -> run.setUp(0, false), run -> run.clear(1),
+            run -> run.repair(1, 3), run -> run.setUp(0, true), run -> run.setUp(3, false),
+            run -> run.readPlan(), run -> run.pass(1), run -> run.write(2, 7, 13),
+            run -> run.pass(3), run -> run.write(2, 7, 14), run -> run.read(1, 7),
+            run -> run.restore());
     }
 
     private static void stepByStep() {
-        for (int last = 0; last <= 21; last++) {
-            KeyGraves x = new KeyGraves();
-            x.keep();
-            Due.typeAll(x, "1-0@3,1-3@3,2-1@6");
-            int[] hashes = new int[last + 1];
-            for (int number = 0; number <= last; number++) {
-                hashes[number] = Told.hash(x);
-                act(x, number);
-                String of = " of act " + number;
-                due.is("a change" + of, Told.hash(x) == hashes[number] ? 1 : 0, 0);
-                due.is("states" + of, x.count(11), Math.min(number + 1, 4));
-            }
-            for (int number = last; number >= Math.max(0, last - 3); number--) {
-                x.undo();
-                String of = " of act " + number + " of " + last;
-                due.is("undo()" + of, Told.hash(x) == hashes[number] ? 1 : 0, 1);
-            }
+        Run run = new Run(due).keep().typed("1-0@3,1-3@3,2-1@6");
+        for (UnaryOperator<Run> act : acts()) {
+            act.apply(run);
+            run.act(run.answer()).changes();
         }
     }
 
     private static void droppedEventsComeBack() {
-        KeyGraves x = new KeyGraves();
-        x.plan(3, 2, 1);
-        x.setUp(2, false);
-        x.pass(1);
+        Run before = new Run(due).plan(3, 2, 1).setUp(2, false).pass(1);
         for (int i = 0; i < 9; i++) {
-            x.repair(0, 1);
+            before.repair(0, 1);
         }
-        int before = Told.hash(x);
-        due.is("the oldest that is known", x.event(9, 0) * 100 + x.event(9, 2) * 10
-            + x.event(9, 3), 123);
-        x.pass(1);
-        x.repair(0, 3);
-        due.is("it is dropped", x.event(9, 0) * 100 + x.event(9, 2) * 10 + x.event(9, 3), 1);
-        x.undo();
-        x.undo();
-        due.is("it is back", x.event(9, 0) * 100 + x.event(9, 2) * 10 + x.event(9, 3), 123);
-        due.is("as before", Told.hash(x) == before ? 1 : 0, 1);
+        Run run = new Run(due).like(before).event(9, 0).due(1).event(9, 2).due(2).event(9, 3).due(3);
+        run.pass(1).repair(0, 3).event(9, 0).due(0).event(9, 2).due(0).event(9, 3).due(1)
+            .undo().undo().stateAsBehind(before);
     }
 
     private static void snapshots() {
-        KeyGraves x = new KeyGraves();
-        due.is("restore() of nothing", x.restore(), -5);
-        due.is("no act", x.count(11), 0);
-        x.pass(8);
-        due.is("keep()", x.keep(), 8);
-        due.is("keep() is no act", x.count(11), 1);
-        int kept = Told.hash(x);
-        x.pass(4);
-        x.write(1, 1, 1);
-        due.is("restore()", x.restore(), 8);
-        due.is("restore() is an act", x.count(11), 4);
-        due.is("as it was kept", Told.hash(x) == kept ? 1 : 0, 1);
-        due.is("restore() again", x.restore(), 8);
-        x.write(2, 2, 2);
-        due.is("the snapshot stays as it was", x.restore(), 8);
-        due.is("without the write", x.known(2, 2, 0), 0);
-        x.pass(1);
-        due.is("keep() in its place", x.keep(), 9);
-        x.pass(1);
-        due.is("the new one", x.restore(), 9);
+        Run kept = new Run(due).pass(8);
+        Run run = new Run(due).restore().refused(Edges.NONE).like(kept).keep().due(8).count(11).due(1);
+        run.pass(4).write(1, 1, 1).restore().act(8).stateAsBehind(kept).restore().act(8);
+        run.write(2, 2, 2).restore().act(8).stateAsBehind(kept).pass(1).keep().due(9).pass(1)
+            .restore().act(9);
     }
 
     private static void snapshotsAndHistory() {

@@ -1,7 +1,7 @@
 /** Long runs of calls, each answered by the program and by the model of the document. */
 public final class ModelTest {
-    private static final int RUNS = 400;
-    private static final int CALLS = 512;
+    private static final int RUNS = 4000;
+    private static final int ACTS_AHEAD_OF_ALL = 115;
 
     private static final String[] TEXTS = {
         "0-1@", "1-2@", "3-0@", "2-3@", "0-0@", ",", "5", "10", "0", "00", "123", "9999", "1", "-", "@",
@@ -39,7 +39,12 @@ public final class ModelTest {
         return edge == 1 ? greatest + 1 : least + below(greatest - least + 1);
     }
 
-    private void same(String call, int got, int want) {
+    private void call(String call, int got, int want) {
+        done++;
+        if (done > Telling.MOST_CALLS) {
+            throw new IllegalStateException("more calls than the document promises");
+        }
+        calls.append(call).append(" = ").append(got).append('\n');
         if (got != want) {
             System.out.println(calls);
             System.out.println(call + " answered " + got + ", the model " + want);
@@ -47,28 +52,25 @@ public final class ModelTest {
         }
     }
 
-    private void call(String call, int got, int want) {
-        calls.append(call).append(" = ").append(got).append('\n');
-        done++;
-        same(call, got, want);
-    }
-
+    /** Half of the runs are asked something between the acts, the others all at their end. */
     private void run(int run) {
         // Few keys and short graces let graves be cleared and deleted keys come back often.
         int keys = 1 + run % 8;
         int graces = run % 3 == 0 ? 500 : 6;
-        while (done < CALLS) {
-            act(keys, graces);
-            if (done % 8 == 0) {
-                tellAll();
-            } else {
-                tellSome();
+        boolean askedAll = run % 2 == 0;
+        int acts = askedAll ? below(ACTS_AHEAD_OF_ALL) : Telling.MOST_CALLS;
+        while (done < acts) {
+            act(keys, graces, acts);
+            if (!askedAll && done < acts) {
+                ask();
             }
         }
-        tellAll();
+        if (askedAll) {
+            askAll();
+        }
     }
 
-    private void act(int keys, int graces) {
+    private void act(int keys, int graces, int acts) {
         int kind = below(100);
         if (kind < 45) {
             useKeys(keys);
@@ -77,7 +79,7 @@ public final class ModelTest {
         } else if (kind < 84) {
             useSettings(graces);
         } else if (kind < 92) {
-            useTexts();
+            useTexts(acts);
         } else {
             useHistory();
         }
@@ -113,7 +115,7 @@ public final class ModelTest {
             boolean up = below(3) > 0;
             call("setUp(" + one + ", " + up + ")", x.setUp(one, up), m.setUp(one, up));
         } else {
-            int tick = below(5) == 0 ? near(0, 9999) : x.count(0) + below(8);
+            int tick = below(5) == 0 ? near(0, 9999) : m.count(0) + below(8);
             call("plan(" + one + ", " + other + ", " + tick + ")",
                 x.plan(one, other, tick), m.plan(one, other, tick));
         }
@@ -126,7 +128,7 @@ public final class ModelTest {
         call("set(" + which + ", " + value + ")", x.set(which, value), m.set(which, value));
     }
 
-    private void useTexts() {
+    private void useTexts(int acts) {
         int kind = below(5);
         if (kind == 0) {
             call("clearText()", x.clearText(), m.clearText());
@@ -134,7 +136,7 @@ public final class ModelTest {
             call("readPlan()", x.readPlan(), m.readPlan());
         } else {
             String piece = TEXTS[below(TEXTS.length)];
-            for (int i = 0; i < piece.length() && done < CALLS; i++) {
+            for (int i = 0; i < piece.length() && done < acts; i++) {
                 char sign = piece.charAt(i);
                 call("type('" + sign + "')", x.type(sign), m.type(sign));
             }
@@ -154,40 +156,90 @@ public final class ModelTest {
         }
     }
 
-    private void tellSome() {
-        for (int what = -1; what <= 13; what++) {
-            same("count(" + what + ")", x.count(what), m.count(what));
+    private void ask() {
+        int node = near(0, 3);
+        int key = near(0, 7);
+        switch (below(18)) {
+            case 0, 1, 2, 3 -> askCount(near(0, 12));
+            case 4, 5, 6 -> askKnown(node, key, near(0, 6));
+            case 7, 8 -> askTruth(key, near(0, 4));
+            case 9, 10 -> askNode(node, near(0, 5));
+            case 11 -> askPair(node, near(0, 3), near(0, 1));
+            case 12, 13 -> askEvent(near(0, 10), near(0, 3));
+            case 14 -> askPlanned(near(0, 10), near(0, 2));
+            case 15 -> call("slowest()", x.slowest(), m.slowest());
+            case 16 -> call("graceNeeded()", x.graceNeeded(), m.graceNeeded());
+            default -> askSetting(near(0, 4));
         }
-        for (int what = 0; what <= 3; what++) {
-            same("event(0, " + what + ")", x.event(0, what), m.event(0, what));
-        }
-        same("slowest()", x.slowest(), m.slowest());
-        same("graceNeeded()", x.graceNeeded(), m.graceNeeded());
     }
 
-    private void tellAll() {
-        tellSome();
-        for (int one = -1; one <= 8; one++) {
-            for (int other = -1; other <= 8; other++) {
-                for (int what = -1; what <= 7; what++) {
-                    String args = "(" + one + ", " + other + ", " + what + ")";
-                    same("known" + args, x.known(one, other, what), m.known(one, other, what));
-                    same("pair" + args, x.pair(one, other, what), m.pair(one, other, what));
+    private void askAll() {
+        for (int node = 0; node < 4; node++) {
+            for (int what = 0; what <= 5; what++) {
+                askNode(node, what);
+            }
+            for (int key = 0; key < 8; key++) {
+                for (int what = 0; what <= 6; what++) {
+                    askKnown(node, key, what);
                 }
             }
-            for (int what = -1; what <= 6; what++) {
-                String args = "(" + one + ", " + what + ")";
-                same("truth" + args, x.truth(one, what), m.truth(one, what));
-                same("node" + args, x.node(one, what), m.node(one, what));
+            for (int other = 0; other < node; other++) {
+                askPair(node, other, 0);
+                askPair(node, other, 1);
             }
-            same("setting(" + one + ")", x.setting(one), m.setting(one));
+            askSetting(node);
         }
-        for (int place = -1; place <= 11; place++) {
-            for (int what = -1; what <= 4; what++) {
-                String args = "(" + place + ", " + what + ")";
-                same("event" + args, x.event(place, what), m.event(place, what));
-                same("planned" + args, x.planned(place, what), m.planned(place, what));
+        for (int key = 0; key < 8; key++) {
+            for (int what = 0; what <= 4; what++) {
+                askTruth(key, what);
             }
         }
+        for (int place = 0; place <= 10; place++) {
+            for (int what = 0; what <= 3; what++) {
+                askEvent(place, what);
+            }
+            for (int what = 0; what <= 2; what++) {
+                askPlanned(place, what);
+            }
+        }
+        for (int what = 0; what <= 12; what++) {
+            askCount(what);
+        }
+        call("slowest()", x.slowest(), m.slowest());
+        call("graceNeeded()", x.graceNeeded(), m.graceNeeded());
+    }
+
+    private void askKnown(int node, int key, int what) {
+        call("known(" + node + ", " + key + ", " + what + ")",
+            x.known(node, key, what), m.known(node, key, what));
+    }
+
+    private void askTruth(int key, int what) {
+        call("truth(" + key + ", " + what + ")", x.truth(key, what), m.truth(key, what));
+    }
+
+    private void askNode(int node, int what) {
+        call("node(" + node + ", " + what + ")", x.node(node, what), m.node(node, what));
+    }
+
+    private void askPair(int one, int other, int what) {
+        call("pair(" + one + ", " + other + ", " + what + ")",
+            x.pair(one, other, what), m.pair(one, other, what));
+    }
+
+    private void askEvent(int back, int what) {
+        call("event(" + back + ", " + what + ")", x.event(back, what), m.event(back, what));
+    }
+
+    private void askPlanned(int place, int what) {
+        call("planned(" + place + ", " + what + ")", x.planned(place, what), m.planned(place, what));
+    }
+
+    private void askCount(int what) {
+        call("count(" + what + ")", x.count(what), m.count(what));
+    }
+
+    private void askSetting(int which) {
+        call("setting(" + which + ")", x.setting(which), m.setting(which));
     }
 }

@@ -14,7 +14,6 @@ public final class RepairsTest {
         planErrors();
         passErrors();
         plannedRepairs();
-        lastTick();
         due.end();
     }
 
@@ -276,22 +275,6 @@ public final class RepairsTest {
         due.is("acts", x.count(11), 2);
         due.is("undo()", x.undo(), 1);
         due.is("tick 1", x.count(0), 1);
-    }
-
-    /** Nothing is promised of so many calls, but the edge cannot be reached with fewer. */
-    private static void lastTick() {
-        KeyGraves x = new KeyGraves();
-        for (int i = 0; i < 1009; i++) {
-            x.pass(99);
-        }
-        due.is("the tick", x.count(0), 99891);
-        due.is("up to 99990", x.pass(99), 0);
-        due.is("one too many", x.pass(10), -3);
-        due.is("BAD_VALUE goes ahead", x.pass(100), -2);
-        due.is("the tick stays", x.count(0), 99990);
-        due.is("up to 99999", x.pass(9), 0);
-        due.is("no more", x.pass(1), -3);
-        due.is("the last tick", x.count(0), 99999);
     }
 
     private static void plannedRepairs() {

@@ -68,6 +68,6 @@ public final class RulesTest {
             int parameters = matcher.group(3).split(",").length;
             due.is(name + " has many parameters", parameters > 7 ? 1 : 0, 0);
         }
-        due.is("the methods that were looked at: " + methods, methods > 60 ? 1 : 0, 1);
+        due.is("the methods that were looked at: " + methods, methods > 25 ? 1 : 0, 1);
     }
 }
