@@ -93,6 +93,12 @@ final class HistoryTerms {
             behindOne.act(behindOne.answer());
         }
         Run.full(due).setUp(3, true).act(4);
+        // What is told is no act.
+        Run asked = Run.full(due);
+        for (Call question : Telling.allQuestions()) {
+            asked.call(question);
+        }
+        asked.asBehind(Run.full(due));
         // Also acts that let the state be as it was.
         new Run(due).keep().restore().act(0).restore().act(0).count(11).due(2);
         new Run(due).typed("0-1@5").readPlan().act(1).readPlan().act(1).count(11).due(2);

@@ -291,6 +291,17 @@ final class NodesTerms {
             .known(1, 0, 0).due(2).known(0, 0, 1).due(5);
         new Run(due).write(0, 0, 5).pass(2).write(0, 0, 5).known(0, 0, 2).due(2)
             .known(0, 0, 3).due(2).known(1, 0, 6).due(2);
+        // Whatever the nodes knew: nothing, a value or a grave.
+        Run all = new Run(due).set(0, 4).write(0, 0, 5).write(1, 0, 6);
+        for (int node = 0; node <= 3; node++) {
+            all.known(node, 0, 1).due(6).known(node, 0, 2).due(2);
+        }
+        all.delete(2, 0).delete(3, 0);
+        for (int node = 0; node <= 3; node++) {
+            all.known(node, 0, 0).due(2).known(node, 0, 2).due(4);
+        }
+        all.write(3, 0, 7).known(0, 0, 1).due(7).known(1, 0, 1).due(7).known(2, 0, 1).due(7)
+            .known(3, 0, 1).due(7);
     }
 
     private static void readTellsTheNewest(Due due) {

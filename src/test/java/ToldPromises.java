@@ -16,7 +16,7 @@ final class ToldPromises {
             .test("5 for whether it is haunted (1, otherwise 0)", ToldPromises::hauntedByIt)
             .test("6 for the tick in which it came to know that (NONE if it knows nothing)",
                 ToldPromises::tickOfComingToKnow)
-            .test("the number", ToldPromises::tellingKnownChangesNothing)
+            .test("the number", ToldPromises::knownOfEachWhat)
             .test("UNKNOWN (node or key)", ToldPromises::knownOfNoNodeOrKey)
             .test("BAD_VALUE.", due -> Edges.refuse(due, Edges.BAD_VALUE, 0, 6, (run, what) ->
                 run.known(0, 0, what)));
@@ -31,7 +31,7 @@ final class ToldPromises {
             .test("3 for how many are haunted by it", ToldPromises::nodesThatAreHaunted)
             .test("4 for whether it is a settled grave (1, otherwise 0; a node that cleared it does "
                 + "not know it)", ToldPromises::settledTruth)
-            .test("the number", ToldPromises::tellingTheRestChangesNothing)
+            .test("the number", ToldPromises::truthOfEachWhat)
             .test("UNKNOWN", due -> Edges.refuseKeys(due, (run, key) -> run.truth(key, 0)))
             .test("BAD_VALUE.", due -> Edges.refuse(due, Edges.BAD_VALUE, 0, 4, (run, what) ->
                 run.truth(0, what)));
@@ -43,7 +43,7 @@ final class ToldPromises {
             .test("3 for the ripe ones of these", ToldPromises::ripeGravesOfANode)
             .test("4 for those that clear() would clear if it is up", ToldPromises::clearableGraves)
             .test("5 for the keys by which it is haunted", ToldPromises::keysThatHauntANode)
-            .test("the number", ToldPromises::tellingTheRestChangesNothing)
+            .test("the number", ToldPromises::nodeOfEachWhat)
             .test("UNKNOWN", due -> Edges.refuseNodes(due, (run, node) -> run.node(node, 0)))
             .test("BAD_VALUE.", due -> Edges.refuse(due, Edges.BAD_VALUE, 0, 5, (run, what) ->
                 run.node(0, what)));
@@ -53,7 +53,7 @@ final class ToldPromises {
             .test("`what`: 0 for the tick of the latest repair of the pair (NONE without one)",
                 ToldPromises::latestRepair)
             .test("1 for how many keys they know otherwise", ToldPromises::keysKnownOtherwise)
-            .test("the number", ToldPromises::tellingTheRestChangesNothing)
+            .test("the number", ToldPromises::pairOfEachWhat)
             .test("UNKNOWN (one or other)", ToldPromises::pairOfNoNode)
             .test("BAD_VALUE (what, or both are the same).", ToldPromises::pairOfNoWhat);
     }
@@ -101,26 +101,15 @@ final class ToldPromises {
             .pass(1).repair(0, 1).known(0, 0, 6).due(6).known(1, 0, 6).due(4);
     }
 
-    private static Run askedAll(Due due) {
-        Run run = Run.full(due);
-        for (Call question : Telling.allQuestions()) {
-            run.call(question);
-        }
-        return run;
-    }
-
-    private static void tellingKnownChangesNothing(Due due) {
-        Run asked = Run.full(due);
+    private static void knownOfEachWhat(Due due) {
+        Run run = new Run(due).set(2, 3).pass(4).write(0, 1, 0).pass(1).delete(1, 1).pass(3);
+        int[][] wanted = {{1, 0, 1, 4, 0, 1, 4}, {2, -5, 2, 5, 1, 0, 5}, {2, -5, 2, 5, 1, 0, 5},
+            {0, -5, -5, -5, 0, 0, -5}};
         for (int node = 0; node <= 3; node++) {
             for (int what = 0; what <= 6; what++) {
-                asked.known(node, 0, what).known(node, 7, what);
+                run.known(node, 1, what).due(wanted[node][what]);
             }
         }
-        asked.asBehind(Run.full(due));
-    }
-
-    private static void tellingTheRestChangesNothing(Due due) {
-        askedAll(due).asBehind(Run.full(due));
     }
 
     private static void knownOfNoNodeOrKey(Due due) {
@@ -135,6 +124,17 @@ final class ToldPromises {
                 run.truth(each, 0).due(each == key ? 1 : each == (key + 1) % 8 ? 2 : 0);
             }
             run.truth(key, 1).due(40 + key);
+        }
+    }
+
+    private static void truthOfEachWhat(Due due) {
+        Run run = new Run(due).set(0, 3).write(0, 1, 70).write(0, 2, 5).delete(3, 2).set(0, 4)
+            .delete(0, 3);
+        int[][] wanted = {{0, -5, 4, 0, 0}, {1, 70, 3, 0, 0}, {2, -5, 3, 1, 0}, {2, -5, 4, 0, 1}};
+        for (int key = 0; key <= 3; key++) {
+            for (int what = 0; what <= 4; what++) {
+                run.truth(key, what).due(wanted[key][what]);
+            }
         }
     }
 
@@ -186,6 +186,18 @@ final class ToldPromises {
         }
     }
 
+    private static void nodeOfEachWhat(Due due) {
+        Run run = new Run(due).set(2, 2).write(0, 0, 1).write(0, 1, 1).write(0, 2, 1).delete(1, 1)
+            .pass(1).delete(1, 3).pass(1).setUp(2, false);
+        int[][] wanted = {{1, 3, 0, 0, 0, 1}, {1, 2, 2, 1, 1, 0}, {0, 0, 2, 1, 1, 0},
+            {1, 0, 0, 0, 0, 0}};
+        for (int node = 0; node <= 3; node++) {
+            for (int what = 0; what <= 5; what++) {
+                run.node(node, what).due(wanted[node][what]);
+            }
+        }
+    }
+
     /** Node 0 knows graves of the keys below the number and values of the rest. */
     private static Run gravesBelow(Due due, int graves) {
         Run run = new Run(due).set(0, 1).set(2, 5);
@@ -218,7 +230,8 @@ final class ToldPromises {
     private static void ripeGravesOfANode(Due due) {
         for (int graves = 0; graves <= 8; graves++) {
             gravesBelow(due, graves).pass(4).node(0, 3).due(0).pass(1).node(0, 3).due(graves)
-                .setUp(0, false).node(0, 3).due(graves).set(2, 6).node(0, 3).due(0);
+                .setUp(0, false).node(0, 3).due(graves).set(3, 1).node(0, 3).due(graves)
+                .set(2, 6).node(0, 3).due(0);
         }
         new Run(due).set(2, 2).delete(0, 0).pass(1).delete(0, 7).pass(1).node(0, 3).due(1)
             .node(0, 2).due(2).pass(1).node(0, 3).due(2);
@@ -247,6 +260,13 @@ final class ToldPromises {
             Run.full(due).pair(node, node, 0).refused(Edges.BAD_VALUE).pair(node, node, 1)
                 .refused(Edges.BAD_VALUE);
         }
+    }
+
+    private static void pairOfEachWhat(Due due) {
+        Run run = new Run(due).set(0, 1).write(0, 0, 1).write(0, 7, 1).pass(6).repair(2, 0)
+            .write(1, 3, 5);
+        run.pair(0, 2, 0).due(6).pair(0, 2, 1).due(0).pair(0, 1, 0).due(Edges.NONE)
+            .pair(0, 1, 1).due(3).pair(3, 1, 0).due(Edges.NONE).pair(3, 1, 1).due(1);
     }
 
     private static void latestRepair(Due due) {
