@@ -30,7 +30,7 @@ final class PlansPromises {
             .test("how many repairs of the plan are done in them", PlansPromises::passCountsRepairs)
             .test("BAD_VALUE", due -> Edges.refuse(due, Edges.BAD_VALUE, 1, 99, Run::pass))
             .untested("FULL if the tick would be more than 99999.", "512 calls of 99 ticks each end "
-                + "at 50688, and no other call lets the tick become greater than it was before");
+                + "at 50688, and undo() and restore() bring back only ticks that have been");
         all.in("Promise 12")
             .test("Types a character behind the text.", PlansPromises::typeBehindTheText)
             .test("`character`: any character", PlansPromises::typeAnyCharacter)
